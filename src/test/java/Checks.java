@@ -1,0 +1,109 @@
+/** What the tests share: counting and telling what is wrong, and texts for load(). */
+final class Checks {
+    interface Call {
+        void run();
+    }
+
+    private int made;
+    private int wrong;
+
+    void that(String what, boolean holds) {
+        made++;
+        if (!holds) {
+            wrong++;
+            System.out.println("wrong: " + what);
+        }
+    }
+
+    void same(String what, long got, long due) {
+        that(what + " answered " + got + ", due is " + due, got == due);
+    }
+
+    void same(String what, double got, double due) {
+        that(what + " answered " + got + ", due is " + due, got == due);
+    }
+
+    void same(String what, String got, String due) {
+        that(what + " answered \"" + got + "\", due is \"" + due + "\"", got.equals(due));
+    }
+
+    /** The call has to throw just this kind of exception. */
+    void refused(String what, Class<? extends RuntimeException> due, Call call) {
+        String got = "nothing";
+        try {
+            call.run();
+        } catch (RuntimeException thrown) {
+            got = thrown.getClass().getName();
+        }
+        that(what + " threw " + got + ", due is " + due.getName(), got.equals(due.getName()));
+    }
+
+    void outOfIndex(String what, Call call) {
+        refused(what, IndexOutOfBoundsException.class, call);
+    }
+
+    void outOfRange(String what, Call call) {
+        refused(what, IllegalArgumentException.class, call);
+    }
+
+    void inWrongState(String what, Call call) {
+        refused(what, IllegalStateException.class, call);
+    }
+
+    void notThere(String what, Call call) {
+        refused(what, java.util.NoSuchElementException.class, call);
+    }
+
+    /** Prints how it went, and ends with exit code 1 if anything was wrong. */
+    void end() {
+        System.out.println(made + " checks, " + wrong + " wrong");
+        if (wrong > 0 || made == 0) {
+            System.exit(1);
+        }
+    }
+
+    /** Puts a text behind what is in the input buffer. */
+    static void type(ValveRoom x, String text) {
+        int length = text.length();
+        int padded = (length + 19) / 20 * 20;
+        int end = 0;
+        for (int from = 0; from < padded; from += 20) {
+            end = x.append(four(text, from), four(text, from + 4), four(text, from + 8), four(text, from + 12),
+                    four(text, from + 16));
+        }
+        if (padded > length) {
+            x.truncate(end - (padded - length));
+        }
+    }
+
+    private static int four(String text, int from) {
+        int bytes = 0;
+        for (int i = from; i < from + 4; i++) {
+            bytes = bytes << 8 | (i < text.length() ? text.charAt(i) & 255 : ' ');
+        }
+        return bytes;
+    }
+
+    static int load(ValveRoom x, String text) {
+        type(x, text);
+        return x.load();
+    }
+
+    /** A new house with this text, which has to be right. */
+    static ValveRoom house(String text) {
+        ValveRoom x = new ValveRoom();
+        if (load(x, text) < 0) {
+            throw new AssertionError("error " + x.errorCode() + " at " + x.errorPosition() + " in " + text);
+        }
+        return x;
+    }
+
+    /** The output buffer, which has to be so long as was told. */
+    static String output(ValveRoom x, int length) {
+        StringBuilder text = new StringBuilder();
+        for (int i = 0; i < length; i++) {
+            text.append((char) x.outputByte(i));
+        }
+        return text.toString();
+    }
+}
