@@ -730,13 +730,14 @@ public final class ValveRoom {
             return place;
         }
 
+        private boolean isEntryOf(int tick, int place) {
+            return place < entries && program[place] / ENTRY_TICK == tick;
+        }
+
         /** The target that is told for just this tick; NONE if there is none. */
         int toldAt(int tick) {
             int place = placeOf(tick);
-            if (place < entries && program[place] / ENTRY_TICK == tick) {
-                return program[place] % ENTRY_TICK;
-            }
-            return NONE;
+            return isEntryOf(tick, place) ? program[place] % ENTRY_TICK : NONE;
         }
 
         int programmedAt(int tick) {
@@ -753,7 +754,7 @@ public final class ValveRoom {
 
         void putEntry(int tick, int target) {
             int place = placeOf(tick);
-            if (toldAt(tick) == NONE) {
+            if (!isEntryOf(tick, place)) {
                 // A full program has each tick already, so there is space for a new one.
                 for (int i = entries; i > place; i--) {
                     program[i] = program[i - 1];
@@ -878,7 +879,7 @@ public final class ValveRoom {
             if (asked.windowLeft > 0) {
                 return 0;
             }
-            int missing = missingTo(asked);
+            int missing = targetOf(asked) - asked.temperature;
             if (Math.abs(missing) <= band) {
                 return asked.valve;
             }
@@ -1205,7 +1206,7 @@ public final class ValveRoom {
                 case BACK: return takeOnce(BACK_TOLD) && takeBack();
                 case CONTROL: return takeOnce(CONTROL_TOLD) && takeControl();
                 case EXERCISE: return takeOnce(EXERCISE_TOLD) && takeExercise();
-                case ROOM: return takeRoom();
+                case ROOM: return takeNewRoom() && takeFittings(draft.rooms[draft.roomCount - 1]);
                 case PROGRAM: return takeProgram();
                 case PLAN: return takePlan();
                 default: return fail(MISPLACED);
@@ -1278,7 +1279,8 @@ public final class ValveRoom {
             return true;
         }
 
-        private boolean takeRoom() {
+        /** Takes the word and the name of a room, and leaves the room as the last of the draft. */
+        private boolean takeNewRoom() {
             if (draft.roomCount >= MOST_ROOMS) {
                 return fail(TOO_MANY);
             }
@@ -1286,24 +1288,20 @@ public final class ValveRoom {
             if (!isName()) {
                 return fail(MISPLACED);
             }
-            if (roomNamedHere() != NONE) {
+            if (draft.numberOf(text, tokens.starts[at], tokens.lengths[at]) != NONE) {
                 return fail(TOLD_AGAIN);
             }
-            Room newRoom = draft.rooms[draft.roomCount];
-            newRoom.startAs(wordHere());
+            draft.rooms[draft.roomCount].startAs(wordHere());
+            draft.roomCount++;
             pass();
+            return true;
+        }
+
+        private boolean takeFittings(Room newRoom) {
             if (!takeKeyword(Keyword.TEMP) || !takeNumber(0, WARMEST_START)) {
                 return false;
             }
             newRoom.temperature = number;
-            if (!takeOptions(newRoom)) {
-                return false;
-            }
-            draft.roomCount++;
-            return true;
-        }
-
-        private boolean takeOptions(Room newRoom) {
             if (!takeOption(Keyword.POWER, 1, MOST_POWER, 10)) {
                 return false;
             }
@@ -1331,17 +1329,13 @@ public final class ValveRoom {
             return new String(letters);
         }
 
-        private int roomNamedHere() {
-            return draft.numberOf(text, tokens.starts[at], tokens.lengths[at]);
-        }
-
         /** The room told ahead that is named here; NONE, and an error is told, if there is none. */
         private int knownRoomHere() {
             if (!isName()) {
                 fail(MISPLACED);
                 return NONE;
             }
-            int found = roomNamedHere();
+            int found = draft.numberOf(text, tokens.starts[at], tokens.lengths[at]);
             if (found == NONE) {
                 fail(UNKNOWN);
             }

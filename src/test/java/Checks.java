@@ -98,6 +98,41 @@ final class Checks {
         return x;
     }
 
+    /** A text of the rooms a to f, which no valve warms and nothing cools, and that are as warm as they have to be. */
+    static String sixRooms(String more) {
+        StringBuilder text = new StringBuilder();
+        for (char name = 'a'; name <= 'f'; name++) {
+            text.append("room ").append(name).append(" temp 200 power 1 loss 0 ").append(more).append(';');
+        }
+        return text.toString();
+    }
+
+    /** All that can be asked about a house as it is, but for the two buffers and the slots. */
+    static String all(ValveRoom x) {
+        StringBuilder all = new StringBuilder();
+        for (int i = 0; i < 12; i++) {
+            all.append(x.property(i)).append(' ');
+        }
+        for (int room = 0; room < x.property(0); room++) {
+            for (int i = 0; i < 11; i++) {
+                all.append(x.room(room, i)).append(' ');
+            }
+            for (int i = 0; i < 6; i++) {
+                all.append(x.count(room, i)).append(' ');
+            }
+            for (int tick = 0; tick < 48; tick++) {
+                all.append(x.programmed(room, tick)).append(' ');
+            }
+            all.append(x.reckoned(room)).append(' ').append(x.target(room)).append('\n');
+        }
+        for (int plan = 0; plan < x.property(4); plan++) {
+            for (int i = 0; i < 3; i++) {
+                all.append(x.planned(plan, i)).append(' ');
+            }
+        }
+        return all.append(x.errorCode()).append(' ').append(x.errorPosition()).toString();
+    }
+
     /** The output buffer, which has to be so long as was told. */
     static String output(ValveRoom x, int length) {
         StringBuilder text = new StringBuilder();
