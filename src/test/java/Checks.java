@@ -54,6 +54,17 @@ final class Checks {
         refused(what, java.util.NoSuchElementException.class, call);
     }
 
+    /** load() of this text by a new object has to tell this error, and must not change the house. */
+    void misread(String text, int code, int position) {
+        ValveRoom x = new ValveRoom();
+        String shown = text.length() > 60 ? text.substring(text.length() - 60) : text;
+        same("load() of " + shown, load(x, text), -4);
+        same("errorCode() of " + shown, x.errorCode(), code);
+        same("errorPosition() of " + shown, x.errorPosition(), position);
+        same("undoCount() behind " + shown, x.undoCount(), 0);
+        same("rooms behind " + shown, x.property(0), 0);
+    }
+
     /** Prints how it went, and ends with exit code 1 if anything was wrong. */
     void end() {
         System.out.println(made + " checks, " + wrong + " wrong");
@@ -96,6 +107,13 @@ final class Checks {
             throw new AssertionError("error " + x.errorCode() + " at " + x.errorPosition() + " in " + text);
         }
         return x;
+    }
+
+    /** So many ticks pass, by as few calls as may be. */
+    static void pass(ValveRoom x, int ticks) {
+        for (int left = ticks; left > 0; left -= 200) {
+            x.tick(Math.min(left, 200));
+        }
     }
 
     /** A text of the rooms a to f, which no valve warms and nothing cools, and that are as warm as they have to be. */

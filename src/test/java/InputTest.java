@@ -176,12 +176,7 @@ public final class InputTest {
     }
 
     private static void error(String text, int code, int position) {
-        ValveRoom x = new ValveRoom();
-        String shown = text.length() > 60 ? text.substring(text.length() - 60) : text;
-        CHECKS.same("load() of " + shown, Checks.load(x, text), -4);
-        CHECKS.same("errorCode() of " + shown, x.errorCode(), code);
-        CHECKS.same("errorPosition() of " + shown, x.errorPosition(), position);
-        CHECKS.same("undoCount() behind " + shown, x.undoCount(), 0);
+        CHECKS.misread(text, code, position);
     }
 
     private static void misplaced() {

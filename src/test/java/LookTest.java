@@ -28,9 +28,7 @@ public final class LookTest {
 
     private static ValveRoom later(int ticks) {
         ValveRoom x = Checks.house(HOUSE);
-        for (int left = ticks; left > 0; left -= 200) {
-            x.tick(Math.min(left, 200));
-        }
+        Checks.pass(x, ticks);
         return x;
     }
 
@@ -41,9 +39,7 @@ public final class LookTest {
         for (int many : ticks) {
             ValveRoom then = Checks.house(HOUSE);
             then.override(0, 230, 7);
-            for (int left = many; left > 0; left -= 200) {
-                then.tick(Math.min(left, 200));
-            }
+            Checks.pass(then, many);
             int heat = 0;
             for (int room = 0; room < 3; room++) {
                 String asked = "(" + room + ", " + many + ")";
