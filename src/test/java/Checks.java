@@ -4,6 +4,8 @@ final class Checks {
         void run();
     }
 
+    private static final String NEW_HOUSE = Whole.state(new ValveRoom());
+
     private int made;
     private int wrong;
 
@@ -62,7 +64,7 @@ final class Checks {
         same("errorCode() of " + shown, x.errorCode(), code);
         same("errorPosition() of " + shown, x.errorPosition(), position);
         same("undoCount() behind " + shown, x.undoCount(), 0);
-        same("rooms behind " + shown, x.property(0), 0);
+        same("the house behind " + shown, Whole.state(x), NEW_HOUSE);
     }
 
     /** Prints how it went, and ends with exit code 1 if anything was wrong. */
@@ -103,7 +105,7 @@ final class Checks {
     /** A new house with this text, which has to be right. */
     static ValveRoom house(String text) {
         ValveRoom x = new ValveRoom();
-        if (load(x, text) < 0) {
+        if (load(x, text) < 0 || x.errorCode() != 0 || x.errorPosition() != -1) {
             throw new AssertionError("error " + x.errorCode() + " at " + x.errorPosition() + " in " + text);
         }
         return x;

@@ -672,6 +672,15 @@ public final class EdgeInputTest {
         errorIs(x, "one behind none", 2, 5);
         Checks.load(x, "back 1;back");
         errorIs(x, "one behind one", 3, 7);
+        String[] right = {"outside 1;", "outside -1;", "window 1 hold 1;", "back 1;", "control 1 1 1;", "exercise 1;", A,
+            A + "program a 1:50,2:50;", A + "plan 1 a go;", A + "room b temp 1 power 1 loss 1 valve 1 battery 1;"};
+        for (String text : right) {
+            ValveRoom y = new ValveRoom();
+            Checks.load(y, "back 1;back");
+            errorIs(y, "an error ahead of " + text, 3, 7);
+            Checks.load(y, text);
+            errorIs(y, "none in " + text, 0, -1);
+        }
         Checks.type(x, "a");
         x.find();
         errorIs(x, "find() leaves it", 3, 7);

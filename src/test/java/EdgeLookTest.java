@@ -308,6 +308,10 @@ public final class EdgeLookTest {
             CHECKS.same("the gain stays", y.property(9), gain);
         }
         CHECKS.that("49 is not as good as 50", lackWith("control 0 ", wide, 49, 48) > lackWith("control 0 ", wide, 50, 48));
+        // Here a gain of 51 would be better than all, if there were one.
+        String steep = " 58;outside 67;window 99 hold 1;room a temp 177 power 14 loss 3;";
+        CHECKS.same("none above 50", Checks.house("control 0 50" + steep).bestGain(0), 45);
+        CHECKS.same("the best of them", bestByTrying("control 0 ", steep, 48), 45);
     }
 
     /** "with which lack() of 48 ticks would be least": not of 47, and not of 49 */

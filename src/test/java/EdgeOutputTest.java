@@ -167,7 +167,7 @@ public final class EdgeOutputTest {
         written(x, "nothing in place of something", x.writePlans(), "");
         written(x, "something in place of nothing", x.writeProgram(0), "10:100,20:200");
         Checks.load(x, "room z temp 1;");
-        written(x, "load() leaves it", x.undoCount() > 0 ? 13 : 0, "10:100,20:200");
+        written(x, "load() leaves it", 13, "10:100,20:200");
     }
 
     /** "index into the output buffer"; "Throws NoSuchElementException if there is no such byte" */

@@ -17,6 +17,7 @@ public final class EdgeUndoTest {
         sixOfEachKind();
         undoneIsGone();
         ticksAreOneCall();
+        fullListsComeBack();
         slotsThatExist();
         nothingKept();
         inPlaceOfWhatWasThere();
@@ -241,6 +242,71 @@ public final class EdgeUndoTest {
         CHECKS.same("undone at once", Whole.state(x), before);
     }
 
+    /** "restores everything": the last of six rooms, of twenty plans and of 48 entries, too */
+    private static void fullListsComeBack() {
+        StringBuilder full = new StringBuilder("room z temp 1;");
+        for (char name = 'a'; name < 'f'; name++) {
+            full.append("room ").append(name).append(" temp 1;");
+        }
+        full.append("program e 0:200");
+        for (int tick = 1; tick < 48; tick++) {
+            full.append(',').append(tick).append(':').append(200 + tick);
+        }
+        for (int way = 0; way < 3; way++) {
+            ValveRoom x = fullHouse();
+            Checks.load(x, full + ";");
+            CHECKS.same("the last entry of another house", x.entry(5, 47), 47247);
+            comeBack(x, way);
+            ValveRoom y = fullHouse();
+            Checks.load(y, "room z temp 1;" + "plan 7 z open;".repeat(20));
+            CHECKS.same("time of the last plan of another house", y.planned(19, 0), 7);
+            CHECKS.same("its room", y.planned(19, 1), 0);
+            CHECKS.same("its kind", y.planned(19, 2), 0);
+            comeBack(y, way);
+        }
+    }
+
+    /** Six rooms, twenty plans, a program of 48 entries; the same in slot 1. */
+    private static ValveRoom fullHouse() {
+        ValveRoom x = Checks.house(Checks.sixRooms("") + "back 7;");
+        for (int tick = 0; tick < 48; tick++) {
+            x.setProgram(5, tick, 100 + tick);
+        }
+        for (int i = 0; i < 20; i++) {
+            x.plan(100 + i, (i + 3) % 6, (i + 2) % 4);
+        }
+        x.keep(1);
+        return x;
+    }
+
+    /** Behind a load(), the full house comes back by undo(), by restore(), or by undo() of both. */
+    private static void comeBack(ValveRoom x, int way) {
+        switch (way) {
+            case 0: CHECKS.same("undo() of load()", x.undo(), 5); break;
+            case 1: CHECKS.same("restore() behind load()", x.restore(1), 0); break;
+            default:
+                x.restore(1);
+                CHECKS.same("undo() of restore()", x.undo(), 5);
+                CHECKS.same("undo() of load() behind it", x.undo(), 4);
+        }
+        CHECKS.same("six rooms", x.property(0), 6);
+        CHECKS.same("twenty plans", x.property(4), 20);
+        for (int i = 0; i < 20; i++) {
+            CHECKS.same("time of plan " + i, x.planned(i, 0), 100 + i);
+            CHECKS.same("room of plan " + i, x.planned(i, 1), (i + 3) % 6);
+            CHECKS.same("kind of plan " + i, x.planned(i, 2), (i + 2) % 4);
+        }
+        for (int tick = 0; tick < 48; tick++) {
+            CHECKS.same("entry " + tick, x.entry(5, tick), 1000 * tick + 100 + tick);
+        }
+        for (int room = 0; room < 6; room++) {
+            CHECKS.same("temperature of room " + room, x.room(room, 0), 200);
+            CHECKS.same("power of room " + room, x.room(room, 3), 1);
+        }
+        Checks.type(x, "f");
+        CHECKS.same("the name of the last", x.find(), 5);
+    }
+
     /** "slot: 0 or 1"; "Throws IndexOutOfBoundsException if there is no such slot" */
     private static void slotsThatExist() {
         int[] none = {Integer.MIN_VALUE, -1, 2, 3, Integer.MAX_VALUE};
@@ -295,7 +361,7 @@ public final class EdgeUndoTest {
         CHECKS.same("one room", x.property(0), 1);
         CHECKS.same("no plans", x.property(4), 0);
         CHECKS.outOfIndex("no second room", () -> x.room(1, 0));
-        CHECKS.same("its rooms", Whole.output(x).length() > 0 ? x.writeRooms() : 0, "c:7>200/0".length());
+        CHECKS.same("what is written of it", Checks.output(x, x.writeRooms()), "c:7>200/0");
     }
 
     /** "Makes everything as it was kept in a slot, which keeps it." */

@@ -226,7 +226,7 @@ public final class LookTest {
 
     private static void changeNothing() {
         ValveRoom x = later(7);
-        String before = Checks.all(x);
+        String before = Whole.state(x);
         for (int room = 0; room < 3; room++) {
             x.tempIn(room, 100);
             x.valveIn(room, 100);
@@ -239,6 +239,6 @@ public final class LookTest {
             x.tempIf(room, -100, 100);
             x.coldBy(room, 100);
         }
-        CHECKS.same("behind questions", Checks.all(x), before);
+        CHECKS.same("behind questions", Whole.state(x), before);
     }
 }

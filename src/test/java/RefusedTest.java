@@ -145,6 +145,7 @@ public final class RefusedTest {
         for (int room : rooms) {
             refused(what + " of room " + room, INDEX, x -> call.ask(x, room));
         }
+        refused(what + " of the room behind the last", INDEX, x -> call.ask(x, x.property(0)));
     }
 
     /** "A .. plan or slot that does not exist causes an IndexOutOfBoundsException" */
