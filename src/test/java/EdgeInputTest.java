@@ -658,6 +658,14 @@ public final class EdgeInputTest {
             text.append(' ');
         }
         CHECKS.misread("room a temp 5" + " ".repeat(487), 1, 500);
+        // The last token ends with the 500th byte: a keyword, a name, a number, a symbol.
+        CHECKS.misread(" ".repeat(493) + "outside", 1, 500);
+        CHECKS.misread(A + " ".repeat(500 - A.length() - 8) + "plan 1 a", 1, 500);
+        CHECKS.misread(A + " ".repeat(500 - A.length() - 11) + "plan 1 a go", 1, 500);
+        CHECKS.misread(A + " ".repeat(500 - A.length() - 8) + "plan 1 b", 4, 499);
+        CHECKS.misread(" ".repeat(494) + "back 1", 1, 500);
+        CHECKS.misread(" ".repeat(493) + "back 1?", 1, 499);
+        CHECKS.same("a semicolon", Checks.load(new ValveRoom(), " ".repeat(493) + "back 1;"), 0);
     }
 
     /** "the code of the parse error of the last load(); 0 if it had none or there was no load()", and its position */
