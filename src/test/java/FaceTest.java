@@ -90,6 +90,7 @@ public final class FaceTest {
         checks.that("public and final", Modifier.isPublic(modifiers) && Modifier.isFinal(modifiers));
         checks.that("no package", ValveRoom.class.getPackageName().isEmpty());
         checkNames(checks);
+        checkClassesInside(checks);
         checks.end();
     }
 
@@ -129,7 +130,7 @@ public final class FaceTest {
         return tail.toString();
     }
 
-    /** LANGUAGE.md, rule 1: no private method bears the name of a public one. */
+    /** LANGUAGE.md, rule 1: no private method bears the name of a public one, nor does one of a class inside. */
     private static void checkNames(Checks checks) {
         TreeSet<String> shown = new TreeSet<>();
         for (Method one : ValveRoom.class.getDeclaredMethods()) {
@@ -137,10 +138,27 @@ public final class FaceTest {
                 shown.add(one.getName());
             }
         }
-        for (Method one : ValveRoom.class.getDeclaredMethods()) {
+        checkNoSecond(checks, ValveRoom.class, shown);
+        for (Class<?> inside : ValveRoom.class.getDeclaredClasses()) {
+            checkNoSecond(checks, inside, shown);
+        }
+    }
+
+    private static void checkNoSecond(Checks checks, Class<?> type, TreeSet<String> shown) {
+        for (Method one : type.getDeclaredMethods()) {
             if (!Modifier.isPublic(one.getModifiers())) {
-                checks.that("no second " + one.getName(), !shown.contains(one.getName()));
+                String told = "no second " + one.getName() + " in " + type.getSimpleName();
+                checks.that(told, !shown.contains(one.getName()));
             }
+        }
+    }
+
+    /** LANGUAGE.md, rule 1: "the classes inside it, which are private or package-visible and static" */
+    private static void checkClassesInside(Checks checks) {
+        for (Class<?> inside : ValveRoom.class.getDeclaredClasses()) {
+            int modifiers = inside.getModifiers();
+            boolean hidden = !Modifier.isPublic(modifiers) && !Modifier.isProtected(modifiers);
+            checks.that(inside.getSimpleName() + " is hidden and static", hidden && Modifier.isStatic(modifiers));
         }
     }
 }
